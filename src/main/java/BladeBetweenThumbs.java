@@ -1033,6 +1033,7 @@ public final class BladeBetweenThumbs {
         }
 
         void fail() {
+            // EMPTY ones have no FAILURE, whatever their FIGURE.
         }
     }
 
@@ -1146,6 +1147,7 @@ public final class BladeBetweenThumbs {
         }
 
         int hardest(int itsSoftest) {
+            // "Half of that above its SOFTEST" is read as half of the 20 that a BLOW has above its own.
             return itsSoftest + 20 / 2;
         }
 

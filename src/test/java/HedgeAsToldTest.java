@@ -263,6 +263,11 @@ public final class HedgeAsToldTest {
         due.is("no such thumbs", x.sounds(0, 2, 0, 0, 0), -1);
         due.is("no such blow", x.sounds(0, 0, 1, 0, 0), -1);
         due.is("nothing wears", x.count(4), 0);
+        BladeBetweenThumbs y = Due.told("b01103;t060;k20;k30;t960;");
+        due.is("tight 0 is in range", y.sounds(0, 0, 0, 0, 6), 1);
+        due.is("force 0 is in range", y.sounds(0, 0, 0, 0, 0), 0);
+        due.is("tight 60 is in range", y.sounds(0, 0, 0, 60, 6), 0);
+        due.is("force 60 is in range", y.sounds(0, 1, 1, 20, 60), 1);
     }
 
     private static void pitch() {
@@ -270,6 +275,8 @@ public final class HedgeAsToldTest {
         for (int kind = 0; kind < 8; kind++) {
             BladeBetweenThumbs x = Due.told("b06103;k" + kind + "7;");
             due.is("pitch(0, 0, 20, 4) of kind " + kind, x.pitch(0, 0, 20, 4), want[kind]);
+            due.is("tight 0, cup 0", x.pitch(0, 0, 0, 0), 54 + (kind == 3 ? 12 : kind == 4 ? 7 : 0));
+            due.is("tight 60, cup 9", x.pitch(0, 0, 60, 9), want[kind] + 40 - (kind == 5 || kind == 6 ? 5 : 0));
             due.is("tight -1", x.pitch(0, 0, -1, 0), 1000000001);
             due.is("tight 61", x.pitch(0, 0, 61, 0), 1000000001);
             due.is("cup -1", x.pitch(0, 0, 0, -1), 1000000001);
@@ -296,5 +303,7 @@ public final class HedgeAsToldTest {
         due.is("no such blade", x.tries(1, 0, 0, 4, 8), -1);
         BladeBetweenThumbs y = Due.told("b05010;t130;k09;");
         due.is("it does not sound and splits", y.tries(0, 0, 0, 0, 60), 2);
+        BladeBetweenThumbs z = Due.told("b05010;t130;k00;");
+        due.is("tight 60 is in range", z.tries(0, 0, 0, 60, 0), 0);
     }
 }

@@ -98,6 +98,23 @@ final class PlainRules {
         return best;
     }
 
+    /** By striking out what is known to be wrong, one TIGHT after the other. */
+    int halves(int b, int t, int k) {
+        int[] spans = spans(b, thumbs.get(t)[0], k);
+        List<Integer> left = new ArrayList<>();
+        for (int tight = 0; tight <= 60; tight++) {
+            left.add(tight);
+        }
+        for (int n = 1; !left.isEmpty(); n++) {
+            int middle = (left.get(0) + left.get(left.size() - 1)) / 2;
+            if (middle >= spans[0] && middle <= spans[1]) {
+                return n;
+            }
+            left.removeIf(tight -> middle < spans[0] ? tight <= middle : tight >= middle);
+        }
+        return -4;
+    }
+
     boolean canAt(int b, int t, int k, int tight) {
         for (int force = 0; force <= 60; force++) {
             if (sounds(b, t, k, tight, force)) {

@@ -113,6 +113,7 @@ public final class PlainRulesTest {
         int[] next = rules.next(b, t, k, 100 * tight + force);
         due.is(call + "next", x.next(b, t, k, 100 * tight + force, 0), next == null ? -4 : next[0]);
         due.is(call + "next, far", x.next(b, t, k, 100 * tight + force, 1), next == null ? -4 : next[1]);
+        due.is(call + "halves", x.halves(b, t, k), rules.halves(b, t, k));
         due.is(call + "lasts", x.lasts(b, k, force), rules.isSplit(b) ? -3 : rules.lasts(b, k, force));
         due.is(call + "best force", x.bestForce(b, t, k), rules.isSplit(b) ? -3 : rules.bestForce(b, t, k));
         tellings(call, b, t, k);

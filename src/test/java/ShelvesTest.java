@@ -90,6 +90,7 @@ public final class ShelvesTest {
         due.thrown("element(0, -1)", x, 0, -1, 2);
         due.thrown("element(1, 0), a blow", x, 1, 0, 2);
         due.thrown("element(2, 0), nothing", x, 2, 0, 2);
+        due.thrown("element(7, 0), nothing", x, 7, 0, 2);
         due.thrown("element(8, 0)", x, 8, 0, 1);
         due.thrown("element(-1, -1)", x, -1, -1, 1);
     }

@@ -77,6 +77,8 @@ public final class TellingsTest {
         BladeBetweenThumbs y = Due.told("b16100;b20100;t016;t020;k00;");
         due.is("50 are enough", y.enough(0, 0, 0), 50);
         due.is("more than 50 are not told", y.enough(1, 1, 0), -4);
+        // 915 by 18.
+        due.is("51", Due.told("b14100;t014;k43;").enough(0, 0, 0), -4);
     }
 
     private static void heap() {
@@ -228,6 +230,12 @@ public final class TellingsTest {
         due.is("force 61 beyond what is told", x.judge(0, 0, 0, 1), -13);
         x.put(1, 1, -1);
         due.is("force -1", x.judge(0, 0, 0, 1), -13);
+        x.put(1, 1, 0);
+        x.put(1, 0, 61);
+        due.is("the first force is none", x.judge(0, 0, 0, 1), -13);
+        x.put(1, 0, 60);
+        due.is("forces 0 and 60, tight 60", x.judge(0, 60, 0, 1), -4);
+        x.put(1, 0, -1);
         due.is("-12 ahead of -13", x.judge(0, 0, 3, 1), -12);
     }
 
@@ -241,6 +249,9 @@ public final class TellingsTest {
         due.is("no blows", x.walks(1, 0, 0), -3);
         x.keep(0, 1, 6, 0);
         x.learns(0);
+        due.is("thumbs alone", Due.told("t060;").walks(1, 0, 0), -3);
+        due.is("no blades alone", Due.told("t060;k00;").walks(1, 0, 0), -3);
+        due.is("no thumbs alone", Due.told("b01010;k00;").walks(1, 0, 0), -3);
         due.is("n 0", x.walks(0, 0, 0), -1);
         due.is("n 21", x.walks(21, 0, 0), -1);
         due.is("what 2", x.walks(1, 0, 2), -1);

@@ -45,6 +45,8 @@ public final class TunesTest {
         due.is("all three can", x.tune(0, 606162, 1), 3);
         due.is("two can", x.tune(0, 600062, 1), 2);
         due.is("none can", x.tune(0, 99, 1), 0);
+        due.is("notes 0", x.tune(0, 0, 1), 0);
+        due.is("only the first can", x.tune(0, 600000, 1), 1);
         x.grows(12, 1, 0);
         due.is("three blades", x.tune(0, 606162, 0), 1);
         due.is("three like notes", x.tune(0, 606060, 0), 1);
