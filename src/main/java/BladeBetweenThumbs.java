@@ -933,16 +933,14 @@ public final class BladeBetweenThumbs {
     private int firstNotSo(int b, int t, int k, int tight, Shelf told, Shelf forces) {
         spare.become(now);
         for (int i = 0; i < told.size; i++) {
+            boolean isTried = i < forces.size;
+            int due = NONE;
+            if (isTried) {
+                due = spare.isSplit(b) ? 2 : spare.blowOnce(b, t, k, tight, forces.cells[i]);
+            }
+            // Only what is told is skipped, and so behind the TRY: that is done all the same and wears the BLADE.
             int was = told.cells[i];
-            // A place that is skipped tells of no TRY, so nothing wears there.
-            if (was == told.leastOfSort()) {
-                continue;
-            }
-            if (i >= forces.size) {
-                return i;
-            }
-            int due = spare.isSplit(b) ? 2 : spare.blowOnce(b, t, k, tight, forces.cells[i]);
-            if (was != due) {
+            if (was != told.leastOfSort() && (!isTried || was != due)) {
                 return i;
             }
         }

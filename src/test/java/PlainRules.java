@@ -181,6 +181,23 @@ final class PlainRules {
         return best;
     }
 
+    /** All that the TRIES do is worked out first, and only then held against what is told. */
+    int judge(int b, int t, int k, int tight, int[] told, int[] forces, int least) {
+        int[] blade = blades.get(b).clone();
+        int[] did = new int[forces.length];
+        for (int i = 0; i < forces.length; i++) {
+            did[i] = isSplit(blade) ? 2 : sounds(b, t, k, tight, forces[i]) ? 1 : 0;
+            blade[3] += did[i] == 2 ? 0 : wears(blows.get(k)[0], blows.get(k)[1], forces[i]);
+        }
+        for (int i = 0; i < told.length; i++) {
+            boolean isSo = i < did.length && told[i] == did[i];
+            if (told[i] != least && !isSo) {
+                return i;
+            }
+        }
+        return -4;
+    }
+
     /** SOUND and SPLIT of n walks from a seed. */
     int[] walks(int n, int z) {
         int[] told = new int[2];

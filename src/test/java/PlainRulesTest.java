@@ -118,6 +118,36 @@ public final class PlainRulesTest {
         due.is(call + "best force", x.bestForce(b, t, k), rules.isSplit(b) ? -3 : rules.bestForce(b, t, k));
         tellings(call, b, t, k);
         odds(call, b, t, k, where);
+        judged(call, b, t, k, tight);
+    }
+
+    /** Mostly told as it is, so that the first that is not so may lie far behind; often skipped. */
+    private static void judged(String call, int b, int t, int k, int tight) {
+        int sort = from(0, 2);
+        int least = new int[] {Byte.MIN_VALUE, Short.MIN_VALUE, Integer.MIN_VALUE}[sort];
+        int near = from(0, 1) == 0 && rules.where(b, t, k) > 0 ? x.where(b, t, k, 1) : tight;
+        int[] forces = new int[from(0, 8)];
+        for (int i = 0; i < forces.length; i++) {
+            forces[i] = from(0, 60);
+        }
+        int[] told = new int[from(0, 10)];
+        for (int i = 0; i < told.length; i++) {
+            told[i] = least;
+        }
+        for (int i = 0; i < told.length; i++) {
+            int dice = from(0, 9);
+            for (int v = 0; v <= 2 && dice >= 3; v++) {
+                told[i] = v;
+                if (rules.judge(b, t, k, near, told, forces, least) != i) {
+                    break;
+                }
+            }
+            told[i] = dice == 0 ? from(0, 2) : i >= forces.length && dice < 7 ? least : told[i];
+        }
+        Due.numbers(x, 0, sort, told);
+        Due.numbers(x, 1, from(0, 2), forces);
+        int want = rules.judge(b, t, k, near, told, forces, least);
+        due.is(call + "judge", x.judge(100 * b + 10 * t + k, near, 0, 1), want);
     }
 
     private static void tellings(String call, int b, int t, int k) {

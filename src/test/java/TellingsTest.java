@@ -13,6 +13,7 @@ public final class TellingsTest {
         judgeWithoutSplitting();
         judgeWithSplitting();
         judgeSkips();
+        judgeTriesWhereItSkips();
         judgeRefuses();
         walks();
         due.end();
@@ -202,11 +203,31 @@ public final class TellingsTest {
         }
         Due.numbers(x, 0, 1, -128);
         due.is("-128 is not the least of shorts", x.judge(0, 6, 0, 1), 0);
-        // As this program reads the document: a skipped place tells of no try, so it wears nothing.
-        BladeBetweenThumbs y = Due.told("b05010;t130;k00;");
-        Due.numbers(y, 1, 0, 20, 20);
-        Due.numbers(y, 0, 0, -128, 1);
-        due.is("a skipped one wears nothing", y.judge(0, 6, 0, 1), -4);
+    }
+
+    private static void judgeTriesWhereItSkips() {
+        // Length 1: a blow with FORCE 20 wears 2, so the skipped try splits the blade.
+        BladeBetweenThumbs x = Due.told("b05010;t130;k00;");
+        Due.numbers(x, 1, 0, 20, 20, 20);
+        int[] least = {-128, -32768, LEAST_INT};
+        for (int sort = 0; sort < 3; sort++) {
+            Due.numbers(x, 0, sort, least[sort], 1);
+            due.is("a skipped try wears, sort " + sort, x.judge(0, 6, 0, 1), 1);
+            Due.numbers(x, 0, sort, least[sort], 2);
+            due.is("a skipped try splits, sort " + sort, x.judge(0, 6, 0, 1), -4);
+            Due.numbers(x, 0, sort, 1, least[sort], 2);
+            due.is("a skipped place of a split blade, sort " + sort, x.judge(0, 6, 0, 1), -4);
+            Due.numbers(x, 0, sort, least[sort], least[sort], least[sort], least[sort]);
+            due.is("all skipped, sort " + sort, x.judge(0, 6, 0, 1), -4);
+            Due.numbers(x, 0, sort, least[sort], 2, 2, 2);
+            due.is("one beyond is not so though it is split, sort " + sort, x.judge(0, 6, 0, 1), 3);
+            Due.numbers(x, 0, sort, least[sort], 2, 2, -4);
+            due.is("-4 beyond is not so either, sort " + sort, x.judge(0, 6, 0, 1), 3);
+        }
+        Due.numbers(x, 1, 0, 0, 20, 20);
+        Due.numbers(x, 0, 0, -128, 1, 2);
+        due.is("a skipped try with FORCE 0 wears nothing", x.judge(0, 6, 0, 1), -4);
+        due.is("nothing changes", x.count(4), 0);
     }
 
     private static void judgeRefuses() {
