@@ -1069,7 +1069,7 @@ public final class BladeBetweenThumbs {
         }
 
         int high(int itsLow, int wet) {
-            return itsLow + (8 + wet) / 2;
+            return itsLow + (super.high(itsLow, wet) - itsLow) / 2;
         }
 
         int softest(int slit) {
@@ -1145,8 +1145,8 @@ public final class BladeBetweenThumbs {
         }
 
         int hardest(int itsSoftest) {
-            // "Half of that above its SOFTEST" is read as half of the 20 that a BLOW has above its own.
-            return itsSoftest + 20 / 2;
+            // "Half of that above its SOFTEST" is read as half of what a CUPPED one has above its own.
+            return itsSoftest + (super.hardest(itsSoftest) - itsSoftest) / 2;
         }
 
         int wearBy(int force) {

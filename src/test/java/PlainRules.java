@@ -10,6 +10,16 @@ final class PlainRules {
     /** KIND, FIGURE. */
     final List<int[]> blows = new ArrayList<>();
 
+    PlainRules copy() {
+        PlainRules copy = new PlainRules();
+        for (int[] blade : blades) {
+            copy.blades.add(blade.clone());
+        }
+        copy.thumbs.addAll(thumbs);
+        copy.blows.addAll(blows);
+        return copy;
+    }
+
     static int low(int kind, int breadth, int slit) {
         int sounding = Math.max(0, breadth + slit - 2);
         return new int[] {breadth + slit, breadth + slit, sounding, sounding + 10, breadth + slit, sounding,
